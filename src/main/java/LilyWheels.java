@@ -773,7 +773,7 @@ public final class LilyWheels {
 
         private Pond kept(int i) {
             int k = wrap(oldest + i, MOST_REMEMBERED);
-            return k < ring.length ? ring[k] : null;
+            return k >= 0 && k < ring.length ? ring[k] : null;
         }
 
         void remember(Pond pond) {
