@@ -40,6 +40,10 @@ final class Checks {
         System.out.println(name + ": " + call + " " + got + ", due is " + want.getName());
     }
 
+    int made() {
+        return made;
+    }
+
     void end() {
         System.out.println(name + ": " + made + " checks, " + wrong + " wrong");
         if (wrong != 0 || made == 0) {

@@ -1124,29 +1124,6 @@ final class PromisesTest {
         script(y, 60000, true);
     }
 
-    /** The document's turns, made by the methods themselves. */
-    private static void makeTurns(LilyWheels x, long seed, int m) {
-        long s = seed;
-        for (int i = 0; i < m; i++) {
-            s = s * 6364136223846793005L + 1442695040888963407L;
-            int r = (int) (s >>> 33);
-            int q = r / 16;
-            try {
-                switch (r % 16) {
-                    case 0: x.wheel(3 + q % 3, q / 4 % 9 - 4, q / 64 % 31); break;
-                    case 1: case 2: x.line(q % 3, q / 4 % 5, q / 32 % 3, q / 128 % 5); break;
-                    case 3: x.frog(q % 3, q / 4 % 5, 1 + q / 32 % 9); break;
-                    case 4: x.flies(q % 3, q / 4 % 5, 1 + q / 32 % 9); break;
-                    case 5: x.turn(q % 3, q / 4 % 9 - 4); break;
-                    case 6: case 7: case 8: case 9: x.hop(q % 5, 2 * (q / 8 % 2) - 1); break;
-                    default: x.leap(q % 5, q / 8 % 8); break;
-                }
-            } catch (IndexOutOfBoundsException | IllegalArgumentException | IllegalStateException e) {
-                continue;
-            }
-        }
-    }
-
     // Promise 25
     private static void simulate() {
         long[] seeds = new long[200];
@@ -1173,7 +1150,7 @@ final class PromisesTest {
                     String before = Seen.of(x);
                     int got = x.simulate(seed, m);
                     checks.due("simulate() changes nothing", Seen.of(x).equals(before));
-                    makeTurns(x, seed, m);
+                    Turns.make(x, seed, m);
                     int made = x.about(3) - movesBefore;
                     moves += made;
                     due("simulate(" + seed + ", " + m + ")", got, 1000 * made + x.about(5) - eatenBefore);
